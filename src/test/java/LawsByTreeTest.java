@@ -12,6 +12,8 @@ public final class LawsByTreeTest {
         }
     }
 
+    private static final String[] AHEAD = {"", "sale 1+2*(!(3", "scrap !!!!!!!!(((((((( ", "back", "sale k=(1+2)*"};
+
     private final String s;
     private int at = 0;
     private int brackets = 0;
@@ -179,6 +181,8 @@ public final class LawsByTreeTest {
             due = -100 - fault.place;
         }
         PhoneBench x = new PhoneBench();
+        // what an earlier FAULT leaves open is no matter
+        Due.is("a fault ahead", Due.text(x, AHEAD[s.length() % AHEAD.length]), -100 - AHEAD[s.length() % AHEAD.length].length());
         Due.is("text(" + s + ")", Due.text(x, s), due);
         if (due < 0) {
             return false;

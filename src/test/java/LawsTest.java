@@ -63,6 +63,13 @@ public final class LawsTest {
         fault("sale k1", 6);
         fault("sale 1 1", 7);
         fault("sale kk", 5);
+        fault("sale kz", 5);
+        fault("sale ka", 5);
+        fault("sale 12309", 5);
+        fault("sale k`", 6);
+        fault("sale k{", 6);
+        fault("sale k:", 6);
+        fault("sale 1/", 7);
         fault("sale k k", 7);
         fault("sale g", 5);
         fault("sale b", 5);

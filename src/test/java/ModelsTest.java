@@ -86,7 +86,8 @@ public final class ModelsTest {
         x.model(1000, 0);
         Due.is("has(1, 7)", x.has(1, 7), 0);
         Due.is("stock(1, 7, 99)", x.stock(1, 7, 99), 0);
-        Due.is("stock(1, 7, 4)", x.stock(1, 7, 4), 99);
+        Due.is("stock(1, 7, 0)", x.stock(1, 7, 0), 99);
+        Due.is("stock(1, 7, 4)", x.stock(1, 7, 4), 0);
         Due.is("stock(1, 7, 100)", x.stock(1, 7, 100), Due.BAD);
         Due.is("stock(1, 7, -1)", x.stock(1, 7, -1), Due.BAD);
         Due.is("stock(1, 8, 1)", x.stock(1, 8, 1), Due.BAD);

@@ -56,6 +56,17 @@ public final class PhonesTest {
         Due.is("the 17th", x.phone(0, 0, 0), Due.FULL);
         Due.is("count(1)", x.count(1), 16);
         Due.is("count(2)", x.count(2), 16);
+        PhoneBench y = new PhoneBench();
+        for (int model = 0; model < 6; model++) {
+            Due.is("no such model yet", y.phone(0, 1000 * model, 0), Due.BAD);
+            y.model(1000, 0);
+            y.phone(0, 1000 * model, 0);
+            Due.is("its MODEL", y.told(2 * model, 1), model);
+            y.phone(0, 1000 * model + 999, 0);
+            Due.is("its MODEL", y.told(2 * model + 1, 1), model);
+            Due.is("its CYCLES", y.told(2 * model + 1, 2), 999);
+        }
+        Due.is("phone(0, 6000, 0)", y.phone(0, 6000, 0), Due.BAD);
     }
 
     private static void kinds() {
@@ -65,7 +76,7 @@ public final class PhonesTest {
             {0, 0, 255, 5, 100, 100}, {0, 999, 0, 5, 1, 100}, {0, 19, 3, 5, 99, 100},
             {1, 0, 255, 5, 100, 90}, {1, 500, 0, 21, 50, 90}, {1, 505, 7, 15, 50, 90},
             {2, 0, 0, 10, 50, 80}, {2, 990, 255, 10, 0, 80}, {2, 370, 1, 10, 31, 80},
-            {3, 0, 0, 10, 45, 40}, {3, 999, 255, 19, 0, 40}, {3, 890, 255, 18, 0, 40}, {3, 199, 1, 11, 35, 40},
+            {3, 0, 0, 10, 45, 40}, {3, 999, 255, 19, 0, 40}, {3, 900, 255, 19, 0, 40}, {3, 199, 1, 11, 35, 40},
             {4, 100, 0, 30, 90, 80}, {4, 200, 255, 14, 80, 80},
             {5, 300, 0, 99, 70, 0},
         };

@@ -82,6 +82,9 @@ public final class PlansTest {
         x.turns(0, 5);
         Due.is("left comes ahead of stripped for 0", x.plan(0), 0);
         Due.is("plan(1)", x.plan(1), 1);
+        x.turns(1, 5);
+        Due.is("all are left", x.plan(-1), 0);
+        Due.is("plan(1)", x.plan(1), 0);
         PhoneBench y = new PhoneBench();
         y.model(1000, 0);
         y.stock(0, 0, 1);

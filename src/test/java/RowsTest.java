@@ -120,10 +120,14 @@ public final class RowsTest {
             x.phone(3, 1000, 9);
             x.flag(2, 0, true);
             x.flag(2, 1, true);
+            x.flag(1, 0, true);
+            x.flag(1, 1, true);
             x.promise(1, again);
             x.turns(0, 4);
             x.clear();
             x.choose(2);
+            x.phone(0, 0, 255);
+            x.choose(3);
             Due.text(x, "sale 0");
             Due.text(x, "scrap 9");
             x.check(51);
@@ -229,9 +233,14 @@ public final class RowsTest {
     private static PhoneBench made(Random random) {
         PhoneBench x = new PhoneBench();
         x.model(10 + random.nextInt(9990), random.nextInt(256));
+        x.model(10 + random.nextInt(9990), random.nextInt(256));
+        x.common(random.nextInt(256));
+        if (random.nextBoolean()) {
+            Due.text(x, "back s<70&b<3");
+        }
         x.seed(random.nextInt());
         for (int i = 0; i < 16; i++) {
-            x.phone(random.nextInt(6), random.nextInt(1000), random.nextInt(256));
+            x.phone(random.nextInt(6), random.nextInt(2000), random.nextInt(256));
             x.strip(random.nextInt(16));
             x.mend(random.nextInt(16), random.nextInt(4));
             int phone = random.nextInt(16);
@@ -240,6 +249,7 @@ public final class RowsTest {
         }
         for (int sort = 0; sort < 8; sort++) {
             x.stock(0, sort, 99);
+            x.stock(1, sort, 99);
         }
         for (int i = 0; i < 16; i++) {
             if (x.mend(i, random.nextInt(4)) >= 0) {

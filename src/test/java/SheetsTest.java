@@ -33,10 +33,12 @@ public final class SheetsTest {
         Due.is("missing yet", x.mark(0, 0, 0), Due.NOTHING);
         Due.is("sheet(0, 1, 24)", x.sheet(0, 1, 24), 24);
         x.mark(0, 23, 77);
+        x.mark(0, 0, 78);
         Due.is("sheet(0, 0, 25) leaves it", x.sheet(0, 0, 25), Due.BAD);
         Due.is("its last place", place(x, 0, 23), 77);
         Due.is("sheet(0, 0, 24)", x.sheet(0, 0, 24), 24);
         Due.is("all 0", place(x, 0, 23), 0);
+        Due.is("all 0", place(x, 0, 0), 0);
         Due.is("sheet(0, 0, 0)", x.sheet(0, 0, 0), 0);
         Due.is("no places", x.mark(0, 0, 0), Due.INDEX);
         Due.is("sheet(0, -1, MOST)", x.sheet(0, -1, Due.MOST), 0);
