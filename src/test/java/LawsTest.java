@@ -9,6 +9,7 @@ public final class LawsTest {
         sales();
         scraps();
         returns();
+        manyLongTexts();
         Due.end("LawsTest");
     }
 
@@ -287,5 +288,20 @@ public final class LawsTest {
         y.flag(0, 1, true);
         y.hold(0);
         Due.is("of any STATE", y.told(0, 15), 1);
+    }
+
+    /** The last of many long texts is read as if it were the first. */
+    private static void manyLongTexts() {
+        PhoneBench x = new PhoneBench();
+        x.model(2000, 0);
+        x.phone(5, 0, 255);
+        String ones = many("+1", 43);
+        for (int i = 0; i < 13; i++) {
+            Due.is("text", Due.text(x, "scrap " + i + ones), i);
+            Due.is("leaves", x.textTold(i, 1), 44);
+        }
+        Due.is("text", Due.text(x, "scrap 7" + ones), 13);
+        x.strip(0);
+        Due.is("all of it counts", x.count(10), 50);
     }
 }
