@@ -6,6 +6,7 @@ final class Due {
 
     private static int passed = 0;
     private static int failed = 0;
+    private static String about = "";
 
     private Due() {
     }
@@ -15,10 +16,35 @@ final class Due {
             passed++;
             return;
         }
+        fail(call + " answered " + got + ", due is " + want);
+    }
+
+    static void same(String call, String got, String want) {
+        if (got.equals(want)) {
+            passed++;
+            return;
+        }
+        int at = 0;
+        while (at < got.length() && at < want.length() && got.charAt(at) == want.charAt(at)) {
+            at++;
+        }
+        fail(call + ", yet from place " + at + " on it is\n  " + got + "\n  and was\n  " + want);
+    }
+
+    private static void fail(String why) {
         failed++;
         if (failed <= 40) {
-            System.out.println(call + " answered " + got + ", due is " + want);
+            System.out.println(about.isEmpty() ? why : about + ": " + why);
         }
+    }
+
+    /** What the tests that follow are about; it is told with an answer that is not due. */
+    static void about(String what) {
+        about = what;
+    }
+
+    static int told() {
+        return passed + failed;
     }
 
     static void holds(String what, boolean so) {
