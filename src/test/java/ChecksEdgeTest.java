@@ -106,7 +106,7 @@ public final class ChecksEdgeTest {
         Due.is("one is left", x.count(8), 128);
         Due.is("halves", with(15, 51, 85).deep(), 3);
         Due.is("halves, each turned", with(240, 204, 170).deep(), 3);
-        // 15 parts into 4 and 4; 1, 2 are of one half, 16, 32 of the other one
+        // 15 parts them into halves, 3 the one half, 48 the other one, and then each pair has its own CHECK
         Due.is("each next one by what was said", with(15, 3, 48, 1, 4, 16, 64).deep(), 3);
         Due.is("a CHECK less", with(15, 3, 48, 1, 4, 16).deep(), Due.NONE);
     }

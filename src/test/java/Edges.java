@@ -54,9 +54,18 @@ final class Edges {
 
     /** The call answers that, and the object is then as one that was made likewise without the call. */
     static void refused(String call, Maker maker, Call refusedOne, int want) {
-        PhoneBench x = maker.made();
-        Due.is(call, refusedOne.on(x), want);
-        Due.same(call + " changes nothing", Scene.probe(x), Scene.probe(maker.made()));
+        alike(call + " changes nothing", () -> {
+            PhoneBench x = maker.made();
+            Due.is(call, refusedOne.on(x), want);
+            return x;
+        }, maker);
+    }
+
+    /** All that the one answers the other one answers. */
+    static void alike(String what, Maker one, Maker other) {
+        for (int half = 0; half < 2; half++) {
+            Due.same(what, Scene.probe(one.made(), half), Scene.probe(other.made(), half));
+        }
     }
 
     /** A call that is refused of an object on which all is under way. */

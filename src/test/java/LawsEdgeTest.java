@@ -79,6 +79,12 @@ public final class LawsEdgeTest {
             fault(s, 0);
             fault("  " + s, 2);
         }
+        String[] right = {"sale", "scrap", "back"};
+        for (String key : right) {
+            for (int i = 0; i < key.length(); i++) {
+                fault(key.substring(0, i) + "x" + key.substring(i + 1) + " 1", 0);
+            }
+        }
     }
 
     @Edge(at = "Terms 3", says = "PIECE: NUMBER (1 to 4 digits) | NAME | ! PIECE | ( E ).")
@@ -354,6 +360,14 @@ public final class LawsEdgeTest {
         gives("!0*5", 5);
         gives("!5=0", 1);
         gives("!(5=0)", 1);
+        gives("(1|0)&0", 0);
+        gives("(0&0)|1", 1);
+        gives("(!0)+5", 6);
+        gives("(!7)+3", 3);
+        gives("(!!7)*4", 4);
+        gives("!(!(!0))", 1);
+        gives("3*(1|2)", 3);
+        gives("(2<3)<(3<2)", 0);
     }
 
     @Edge(at = "Terms 3", says = "Of a KEY that TEXT counts that was told last.")
@@ -463,6 +477,26 @@ public final class LawsEdgeTest {
         Due.is("the second", Due.text(x, "back 1"), 1);
         Due.is("why(0)", x.why(0), 0);
         Due.is("why(2)", x.why(2), 1);
+    }
+
+    @Edge(at = "Promise 23", says = "THE TAPE is a TEXT: its number.")
+    static void nothingIsLeftOfAnotherText() {
+        String[] faulty = {"scrap 1+2*(!(3", "scrap " + many("(", 8), "scrap " + many("!", 8), "scrap 1<", "scrap 5 6", "scrap", "sale g"};
+        for (String s : faulty) {
+            PhoneBench x = Scene.withPhone(0, 0, 0);
+            Due.holds("a FAULT", Due.text(x, s) <= -100);
+            Due.is("a TEXT behind it", Due.text(x, "scrap " + many("(", 8) + many("!", 8) + "0" + many(")", 8) + "<5+2*3"), 0);
+            Due.is("its leaves", x.textTold(0, 1), 4);
+            x.strip(0);
+            Due.is("what it gives", x.count(10), 1);
+        }
+        PhoneBench y = Scene.withPhone(0, 0, 0);
+        for (int i = 0; i < 14; i++) {
+            Due.is("a TEXT of 96 bytes", Due.text(y, "scrap  " + (i % 10) + many("+1", 44)), i);
+            Due.is("its leaves", y.textTold(i, 1), 45);
+        }
+        y.strip(0);
+        Due.is("what the last one gives", y.count(10), 47);
     }
 
     @Edge(at = "Promise 23", says = "FULL")

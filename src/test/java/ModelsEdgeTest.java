@@ -75,7 +75,7 @@ public final class ModelsEdgeTest {
         }
     }
 
-    /** WORTH of a PHONE (1000 without pairs, as if) in which all SORTS are FOREIGN. */
+    /** WORTH of a plain PHONE in which all SORTS are FOREIGN. */
     private static int worthOfForeign(int price, int paired) {
         PhoneBench x = Scene.withModel(10 * price, paired);
         Scene.stockAll(x, 0, 1);

@@ -54,6 +54,11 @@ public final class PlansEdgeTest {
         x.choose(0);
         x.choose(1);
         planIs(x, 198, MENDED, STRIPPED);
+        // and likewise, if that one was told first
+        x.clear();
+        x.choose(1);
+        x.choose(0);
+        planIs(x, 198, STRIPPED, MENDED);
         PhoneBench y = chosen(2000, 2, 0, 254);
         planIs(y, 6, STRIPPED, STRIPPED);
         y.stock(0, 0, 1);

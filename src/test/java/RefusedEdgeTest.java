@@ -76,32 +76,44 @@ public final class RefusedEdgeTest {
 
     @Edge(at = "Terms 0", says = "and changes nothing (but the tape and the numbers that wait, where told)")
     static void theTapeAndTheNumbers() {
-        // the same two acts, refused or not, with nothing on the tape and no numbers: all else is alike
-        PhoneBench x = Scene.busy();
-        x.trim(6);
-        Due.is("text() with a FAULT", x.text(), -106);
-        PhoneBench y = Scene.busy();
-        y.trim(0);
-        Due.same("a FAULT uses up the tape alone", Scene.probe(x), Scene.probe(y));
-
-        PhoneBench v = Scene.full();
-        Due.is("text() when FULL", v.text(), Due.FULL);
-        PhoneBench w = Scene.full();
-        w.trim(0);
-        Due.same("FULL uses up the tape alone", Scene.probe(v), Scene.probe(w));
-
-        PhoneBench a = Scene.busy();
-        Due.is("proves(0)", a.proves(0), Due.BAD);
-        PhoneBench b = Scene.busy();
-        Due.is("proves(2)", b.proves(2), 0);
-        Due.same("BAD uses up the numbers alone", Scene.probe(a), Scene.probe(b));
-
-        PhoneBench c = Scene.full();
-        Due.is("proves(1) without an image", c.proves(1), Due.NO);
-        PhoneBench d = Scene.full();
-        Due.is("proves(31)", d.proves(31), Due.BAD);
-        Due.same("NO uses up the numbers alone", Scene.probe(c), Scene.probe(d));
-        Due.is("no numbers wait", c.count(12), 0);
+        Edges.alike("a FAULT uses up the tape alone", () -> {
+            PhoneBench x = Scene.busy();
+            x.trim(6);
+            Due.is("text() with a FAULT", x.text(), -106);
+            return x;
+        }, () -> {
+            PhoneBench x = Scene.busy();
+            x.trim(0);
+            return x;
+        });
+        Edges.alike("FULL uses up the tape alone", () -> {
+            PhoneBench x = Scene.full();
+            Due.is("text() when FULL", x.text(), Due.FULL);
+            return x;
+        }, () -> {
+            PhoneBench x = Scene.full();
+            x.trim(0);
+            return x;
+        });
+        Edges.alike("BAD uses up the numbers alone", () -> {
+            PhoneBench x = Scene.busy();
+            Due.is("proves(0)", x.proves(0), Due.BAD);
+            return x;
+        }, () -> {
+            PhoneBench x = Scene.busy();
+            Due.is("proves(2)", x.proves(2), 0);
+            return x;
+        });
+        Edges.alike("NO uses up the numbers alone", () -> {
+            PhoneBench x = Scene.full();
+            Due.is("proves(1) without an IMAGE", x.proves(1), Due.NO);
+            Due.is("no numbers wait", x.count(12), 0);
+            return x;
+        }, () -> {
+            PhoneBench x = Scene.full();
+            Due.is("proves(31)", x.proves(31), Due.BAD);
+            return x;
+        });
     }
 
     @Edge(at = "Terms 0", says = "NONE: there is none.")

@@ -1,3 +1,5 @@
+import java.util.Arrays;
+
 /** Boundary cases of rows and images: promises 45 to 49, and what "Terms" 5 says of them. */
 public final class RowsEdgeTest {
     public static void main(String[] args) {
@@ -18,6 +20,12 @@ public final class RowsEdgeTest {
         return x;
     }
 
+    private static PhoneBench keptShop() {
+        PhoneBench x = shop();
+        x.keep();
+        return x;
+    }
+
     private static int proved(PhoneBench x, int n, int... numbers) {
         Scene.tellAll(x, numbers);
         Due.is("so many wait", x.count(12), numbers.length);
@@ -26,25 +34,46 @@ public final class RowsEdgeTest {
         return answer;
     }
 
-    @Edge(at = "Terms 5", says = "AN IMAGE keeps all but SHEETS, SLOTS, numbers that wait, THE TAPE; all can become as it is (again and again).")
+    @Edge(at = "Terms 5", says = "AN IMAGE keeps all but SHEETS, SLOTS, numbers that wait, THE TAPE;")
     static void images() {
-        PhoneBench x = Scene.busy();
-        x.keep();
-        // all but the four things is as an object that is busy likewise
-        PhoneBench y = Scene.busy();
-        y.keep();
-        for (int again = 0; again < 3; again++) {
+        Edges.alike("all is as THE IMAGE", () -> {
+            PhoneBench x = Scene.busy();
+            x.keep();
             wreck(x);
             Due.is("back", x.back(), 4);
+            likewise(x);
+            return x;
+        }, () -> {
+            PhoneBench x = Scene.busy();
+            x.keep();
+            likewise(x);
+            return x;
+        });
+        PhoneBench y = Scene.busy();
+        y.keep();
+        wreck(y);
+        y.back();
+        Due.is("the tape is as it became", y.count(13), 23);
+        Due.is("numbers are as they became", y.count(12), 2);
+        Due.is("SHEETS are as they became", y.mark(Scene.FLOATS, 0, 0), Due.NOTHING);
+        Due.is("SLOTS are as they became", y.rest(Scene.EMPTY, 1000), 77);
+    }
+
+    @Edge(at = "Terms 5", says = "all can become as it is (again and again).")
+    static void againAndAgain() {
+        PhoneBench x = shop();
+        x.keep();
+        for (int again = 0; again < 20; again++) {
+            x.run(1 + again);
+            x.turns(0, 1 + again % 5);
+            x.strip(0);
+            x.seed(again);
+            Due.is("back", x.back(), 0);
+            Due.is("KIND", x.told(0, 0), 0);
+            Due.is("STATE", x.told(0, 5), 0);
+            Due.is("none came BACK", x.count(5), 0);
+            Due.is("z", x.count(14), 1);
         }
-        Due.is("the tape is as it became", x.count(13), 23);
-        Due.is("numbers are as they became", x.count(12), 2);
-        Due.is("SHEETS are as they became", x.mark(Scene.FLOATS, 0, 0), Due.NOTHING);
-        Due.is("SLOTS are as they became", x.rest(Scene.EMPTY, 1000), 77);
-        // these made alike, nothing may differ
-        likewise(x);
-        likewise(y);
-        Due.same("all is as THE IMAGE", Scene.probe(x), Scene.probe(y));
     }
 
     private static void wreck(PhoneBench x) {
@@ -64,6 +93,12 @@ public final class RowsEdgeTest {
             x.hold(phone);
         }
         x.clear();
+        x.turns(Scene.BUSY_PHONES, 0);
+        x.choose(Scene.BUSY_PHONES);
+        x.phone(0, 0, 0);
+        x.phone(0, 0, 0);
+        x.choose(Scene.BUSY_PHONES + 2);
+        x.choose(Scene.BUSY_PHONES + 1);
         x.weigh(0, 77);
         x.check(1);
         x.anew();
@@ -112,6 +147,15 @@ public final class RowsEdgeTest {
         z.mend(0, 0);
         z.keep();
         Due.is("99 less 9", proved(z, 1, 90, 0), 0);
+        // the first draw rests 54: below 59 if it is FORESEEN, not below 29
+        PhoneBench w = shop();
+        Due.text(w, "back 0");
+        w.keep();
+        Due.text(w, "back 1");
+        Due.is("by the law of THE IMAGE", proved(w, 1, 186, 0), 0);
+        PhoneBench v = keptShop();
+        Due.text(v, "back 0");
+        Due.is("THE IMAGE has no law", proved(v, 1, 186, 1), 0);
     }
 
     @Edge(at = "Promise 45", says = {"One more number waits: how many.", "FULL: 60 wait."})
@@ -159,23 +203,20 @@ public final class RowsEdgeTest {
 
     @Edge(at = "Promise 46", says = "else 1 and how many stand right ahead of the first that is not (or is missing, or one too many)")
     static void provesNot() {
-        PhoneBench x = shop();
-        x.keep();
         int[] row = Scene.daysTold(shop(), 30);
         for (int wrong = 0; wrong < 60; wrong++) {
+            PhoneBench y = keptShop();
             int[] bent = row.clone();
             bent[wrong] += wrong % 3 == 0 ? -1 : 1;
-            Due.is("the one at " + wrong + " is not", proved(x, 30, bent), 1 + wrong);
-            PhoneBench y = shop();
-            y.keep();
-            Due.is(wrong + " and no more", proved(y, 30, java.util.Arrays.copyOf(row, wrong)), 1 + wrong);
+            Due.is("the one at " + wrong + " is not", proved(y, 30, bent), 1 + wrong);
+            Due.is(wrong + " and no more", proved(y, 30, Arrays.copyOf(row, wrong)), 1 + wrong);
         }
         for (int n = 1; n < 30; n++) {
-            PhoneBench y = shop();
-            y.keep();
-            Due.is("one too many", proved(y, n, java.util.Arrays.copyOf(row, 2 * n + 1)), 1 + 2 * n);
+            PhoneBench y = keptShop();
+            Due.is("one too many", proved(y, n, Arrays.copyOf(row, 2 * n + 1)), 1 + 2 * n);
             Due.is("many too many", proved(y, n, row), 1 + 2 * n);
         }
+        PhoneBench x = keptShop();
         Due.is("wrong, and one too many", proved(x, 1, 186, 2, 172), 2);
         Due.is("wrong, and one missing", proved(x, 2, 187, 1, 172), 1);
         Due.is("two wrong ones", proved(x, 2, 186, 2, 172, 2), 2);
@@ -235,13 +276,11 @@ public final class RowsEdgeTest {
         Due.is("another IMAGE", x.back(), 999);
         Due.is("DAY", x.count(11), 999);
         Due.is("of an image itself", x.keep(), 999);
-        // an empty one and a full one
         PhoneBench y = Scene.full();
         y.keep();
+        y.clear();
         y.back();
-        PhoneBench z = Scene.full();
-        z.keep();
-        Due.same("a full one", Scene.probe(y), Scene.probe(z));
+        Due.same("a full one", Scene.probe(y, 0), Scene.probe(Scene.full(), 0));
     }
 
     @Edge(at = "Promise 48", says = "NO: there is none.")
@@ -259,6 +298,36 @@ public final class RowsEdgeTest {
         Due.is("no PHONE 0", x.told(0, 0), Due.BAD);
         Due.is("the first again", x.model(20, 0), 0);
         Due.is("its PRICE", x.asked(0, 0), 2);
+        nothingOfAnOldPhone();
+    }
+
+    /** A PHONE that comes behind back() has nothing of one that had its number. */
+    private static void nothingOfAnOldPhone() {
+        int[] first = {0, 0, 0, 255, 0, 0, 0, 0, 5, 100, 100, 1, 999, Due.NONE, 0, 0};
+        for (int old = 0; old < 3; old++) {
+            PhoneBench x = Scene.withModel(10, 255);
+            x.keep();
+            Scene.stockAll(x, 0, 1);
+            x.phone(3, 999, 0);
+            x.promise(0, 7);
+            if (old < 2) {
+                x.mend(0, 2);
+                x.flag(0, 0, true);
+            }
+            if (old == 0) {
+                x.sell(0);
+                x.run(60);
+                Due.is("it came BACK", x.told(0, 14), 1);
+            } else {
+                x.flag(0, 1, true);
+                x.hold(0);
+            }
+            x.back();
+            Due.is("phone", x.phone(0, 0, 255), 0);
+            for (int what = 0; what < 16; what++) {
+                Due.is("told(0, " + what + ")", x.told(0, what), first[what]);
+            }
+        }
     }
 
     @Edge(at = "Promise 49", says = {"How many: 0 MODELS, 1 PHONES, 2 of these IN, 3 MENDED, 4 SOLD, 5 that came BACK, 6 TEXTS, 7 CHECKS, 8 OPEN "
