@@ -485,10 +485,10 @@ public final class LawsEdgeTest {
         for (String s : faulty) {
             PhoneBench x = Scene.withPhone(0, 0, 0);
             Due.holds("a FAULT", Due.text(x, s) <= -100);
-            Due.is("a TEXT behind it", Due.text(x, "scrap " + many("(", 8) + many("!", 8) + "0" + many(")", 8) + "<5+2*3"), 0);
+            Due.is("a TEXT behind it", Due.text(x, "scrap " + many("(", 8) + many("!", 7) + "0" + many(")", 8) + "+!0*5-3"), 0);
             Due.is("its leaves", x.textTold(0, 1), 4);
             x.strip(0);
-            Due.is("what it gives", x.count(10), 1);
+            Due.is("what it gives", x.count(10), 1 + 5 - 3);
         }
         PhoneBench y = Scene.withPhone(0, 0, 0);
         for (int i = 0; i < 14; i++) {
