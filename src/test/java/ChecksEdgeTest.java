@@ -61,8 +61,8 @@ public final class ChecksEdgeTest {
         Due.is("the others", x.says(1, false), 1);
     }
 
-    @Edge(at = "Terms 4", says = {"the CHECK of which the heavier side (WEIGHTS of OPEN ones for which it says yes, or of the others) is "
-        + "least; of several the least."})
+    @Edge(at = "Terms 4", says = "the CHECK of which the heavier side (WEIGHTS of OPEN ones for which it says yes, or of the others) is "
+        + "least; of several the least.")
     static void leastOfSeveral() {
         Due.is("two alike", with(15, 15).next(), 0);
         Due.is("its own and the others", with(1, 15, 240).next(), 1);
@@ -111,19 +111,29 @@ public final class ChecksEdgeTest {
         Due.is("a CHECK less", with(15, 3, 48, 1, 4, 16).deep(), Due.NONE);
     }
 
-    @Edge(at = "Promise 26", says = {"WEIGHT of a CAUSE becomes v: what it was.", "BAD"})
+    @Edge(at = "Promise 26", says = "BAD")
     static void weighBad() {
         Edges.refusedFor("weigh(cause, 5)", Due.BAD, (x, v) -> x.weigh(v, 5), -1, 8, Due.LEAST, Due.MOST);
         Edges.refusedFor("weigh(2, v)", Due.BAD, (x, v) -> x.weigh(2, v), -1, 100, Due.LEAST, Due.MOST);
-        Due.is("weigh(2, 0)", Scene.busy().weigh(2, 0), 40);
-        Due.is("weigh(7, 99)", Scene.busy().weigh(7, 99), 1);
     }
 
-    @Edge(at = "Promise 27", says = {"One more CHECK: its number.", "BAD"})
+    @Edge(at = "Promise 26", says = "WEIGHT of a CAUSE becomes v: what it was.")
+    static void weighInBounds() {
+        Due.is("weigh(2, 0)", Scene.busy().weigh(2, 0), 40);
+        Due.is("weigh(7, 99)", Scene.busy().weigh(7, 99), 1);
+        Due.is("weigh(0, 1)", Scene.busy().weigh(0, 1), 1);
+    }
+
+    @Edge(at = "Promise 27", says = "BAD")
     static void checkBad() {
         Edges.refusedFor("check", Due.BAD, PhoneBench::check, 0, 255, -1, 256, Due.LEAST, Due.MOST);
+    }
+
+    @Edge(at = "Promise 27", says = "One more CHECK: its number.")
+    static void checkInBounds() {
         Due.is("check(1)", Scene.busy().check(1), 3);
         Due.is("check(254)", Scene.busy().check(254), 3);
+        Due.is("check(1) of none", new PhoneBench().check(1), 0);
     }
 
     @Edge(at = "Promise 27", says = "FULL")

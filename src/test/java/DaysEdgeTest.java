@@ -110,8 +110,8 @@ public final class DaysEdgeTest {
         Due.is("100 against 50", x.blamed(), 0);
     }
 
-    @Edge(at = "Terms 4", says = {"FORESEEN to come BACK is one (of any STATE) that has a bench, if back gives what is not 0 (without a TEXT: "
-        + "if SPAN is below 20)."})
+    @Edge(at = "Terms 4", says = "FORESEEN to come BACK is one (of any STATE) that has a bench, if back gives what is not 0 (without a TEXT: "
+        + "if SPAN is below 20).")
     static void foreseen() {
         // CYCLES 800 .. 809: SPAN 20; 810: 19
         int[][] due = {{0, 809, 0}, {0, 800, 0}, {0, 810, 1}, {0, 999, 1}, {2, 609, 0}, {2, 610, 1}, {3, 509, 0}, {3, 510, 1}};
@@ -184,7 +184,7 @@ public final class DaysEdgeTest {
         Due.is("255 >>> 8 is 0", w.run(1), 1);
     }
 
-    @Edge(at = "Terms 4", says = {"if the rest of a draw by 100 is below 30 less SPAN (of FORESEEN ones below 60 less SPAN)."})
+    @Edge(at = "Terms 4", says = "if the rest of a draw by 100 is below 30 less SPAN (of FORESEEN ones below 60 less SPAN).")
     static void belowWhat() {
         // not FORESEEN: SPAN 20, below 10
         Due.is("9 of 10", comesBack(sold(0, 800), 9), 1);
@@ -227,8 +227,8 @@ public final class DaysEdgeTest {
         Due.is("29 of 29", comesBackUnder("back 0", 999, 29), 0);
     }
 
-    @Edge(at = "Terms 4", says = {"DAY is one more; then of the PHONES that are SOLD and did not come BACK, by numbers, each (by one draw) "
-        + "comes BACK"})
+    @Edge(at = "Terms 4", says = "DAY is one more; then of the PHONES that are SOLD and did not come BACK, by numbers, each (by one draw) "
+        + "comes BACK")
     static void byNumbers() {
         // the first draw rests 0, the next one (of this z) 60 or more
         int z = 0;

@@ -73,17 +73,15 @@ public final class EdgeCoverTest {
             Due.holds(test + " is of no part of the document: " + edge.at(), false);
             return;
         }
-        for (String words : edge.says()) {
-            Matcher m = Pattern.compile("(?<!\\w)" + Pattern.quote(words)).matcher(section);
-            int found = 0;
-            while (m.find()) {
-                found++;
-                for (int i = m.start(); i < m.end(); i++) {
-                    COVERED.get(edge.at())[i] = true;
-                }
+        Matcher m = Pattern.compile("(?<!\\w)" + Pattern.quote(edge.says())).matcher(section);
+        int found = 0;
+        while (m.find()) {
+            found++;
+            for (int i = m.start(); i < m.end(); i++) {
+                COVERED.get(edge.at())[i] = true;
             }
-            Due.is(test.getName() + ": \"" + words + "\" stands in " + edge.at(), found, 1);
         }
+        Due.is(test.getName() + ": \"" + edge.says() + "\" stands in " + edge.at(), found, 1);
     }
 
     private static void uncovered(String at) {

@@ -33,7 +33,7 @@ final class Edges {
     static void run(Class<?> tests) {
         for (Method one : of(tests)) {
             Edge edge = one.getAnnotation(Edge.class);
-            Due.about(one.getName() + " [" + edge.at() + ": " + String.join(" / ", edge.says()) + "]");
+            Due.about(one.getName() + " [" + edge.at() + ": " + edge.says() + "]");
             int before = Due.told();
             carryOut(one);
             Due.holds("something is tested", Due.told() > before);

@@ -108,8 +108,8 @@ public final class LawsEdgeTest {
         fault("sale (", 6);
     }
 
-    @Edge(at = "Terms 3", says = {"of sale k KIND, f how many FOREIGN SORTS, s SPAN, d DAY; of scrap k, g how many GOOD SORTS, d; of back b "
-        + "the bench, s SPAN, f."})
+    @Edge(at = "Terms 3", says = "of sale k KIND, f how many FOREIGN SORTS, s SPAN, d DAY; of scrap k, g how many GOOD SORTS, d; of back b "
+        + "the bench, s SPAN, f.")
     static void names() {
         String[] key = {"sale", "scrap", "back"};
         String[] own = {"kfsd", "kgd", "bsf"};
@@ -244,8 +244,8 @@ public final class LawsEdgeTest {
         fault("sale   zzz", 7);
     }
 
-    @Edge(at = "Terms 3", says = {"(a word that needs a blank ahead of it, a NUMBER of more than 4 digits, the ninth ( that would be open "
-        + "within others, the ninth ! likewise (through ( ), too), each by itself)"})
+    @Edge(at = "Terms 3", says = "(a word that needs a blank ahead of it, a NUMBER of more than 4 digits, the ninth ( that would be open "
+        + "within others, the ninth ! likewise (through ( ), too), each by itself)")
     static void ninthOnes() {
         fine("sale " + many("(", 8) + "k" + many(")", 8));
         fault("sale " + many("(", 9) + "k" + many(")", 9), 13);
@@ -462,7 +462,7 @@ public final class LawsEdgeTest {
         Due.is("not more than it has now", y.trim(6), Due.BAD);
     }
 
-    @Edge(at = "Promise 23", says = {"THE TAPE is a TEXT: its number.", "-100 less the place of its FAULT"})
+    @Edge(at = "Promise 23", says = "-100 less the place of its FAULT")
     static void textFaults() {
         fault("", 0);
         fault(many(" ", 95) + ")", 95);
@@ -540,9 +540,16 @@ public final class LawsEdgeTest {
         Due.is("it is gone with the IMAGE", y.textTold(0, 0), Due.BAD);
     }
 
-    @Edge(at = "Promise 25", says = {"BAD", "NONE"})
-    static void whyEdges() {
+    @Edge(at = "Promise 25", says = "BAD")
+    static void whyBad() {
         Edges.refusedFor("why", Due.BAD, PhoneBench::why, -1, 3, Due.LEAST, Due.MOST);
+        PhoneBench x = Scene.busy();
+        Due.is("why(0)", x.why(0), 0);
+        Due.is("why(2)", x.why(2), 1);
+    }
+
+    @Edge(at = "Promise 25", says = "NONE")
+    static void whyNone() {
         for (int key = 0; key < 3; key++) {
             int its = key;
             Edges.refused("why(" + key + ") of none", PhoneBench::new, x -> x.why(its), Due.NONE);

@@ -27,8 +27,8 @@ public final class PhonesEdgeTest {
         Due.is("the last stays", x.told(15, CYCLES), 15);
     }
 
-    @Edge(at = "Terms 1", says = {"of KINDS: 0 PHONE; 1 DROPPED, 2 WET, 5 LOCKED, under PHONE; 3 SOAKED, under WET; 4 CRACKED, under "
-        + "DROPPED (all are PHONES)"})
+    @Edge(at = "Terms 1", says = "of KINDS: 0 PHONE; 1 DROPPED, 2 WET, 5 LOCKED, under PHONE; 3 SOAKED, under WET; 4 CRACKED, under "
+        + "DROPPED (all are PHONES)")
     static void treeOfKinds() {
         int[] above = {-1, 0, 0, 2, 1, 0};
         for (int kind = 0; kind < 6; kind++) {
@@ -39,7 +39,7 @@ public final class PhonesEdgeTest {
         }
     }
 
-    @Edge(at = "Terms 1", says = {"with SORTS that are GOOD (bits 0 .. 255)", "LACKS: SORTS that are not GOOD."})
+    @Edge(at = "Terms 1", says = "with SORTS that are GOOD (bits 0 .. 255)")
     static void goodBits() {
         PhoneBench x = Scene.withModel(1000, 0);
         for (int good = 0; good < 256; good += 17) {
@@ -49,6 +49,16 @@ public final class PhonesEdgeTest {
         }
         Due.is("GOOD -1", Scene.withModel(1000, 0).phone(0, 0, -1), Due.BAD);
         Due.is("GOOD 256", Scene.withModel(1000, 0).phone(0, 0, 256), Due.BAD);
+    }
+
+    @Edge(at = "Terms 1", says = "LACKS: SORTS that are not GOOD.")
+    static void lacks() {
+        Due.is("all are GOOD", told(1, 0, 255, HARM), 5);
+        Due.is("none is GOOD", told(1, 0, 0, HARM), 21);
+        for (int sort = 0; sort < 8; sort++) {
+            Due.is("one is not GOOD", told(1, 0, 255 - (1 << sort), HARM), 7);
+            Due.is("one is GOOD", told(1, 0, 1 << sort, HARM), 19);
+        }
     }
 
     @Edge(at = "Terms 1", says = "CYCLES 0 .. 999 of its battery (SORT 0)")
@@ -101,8 +111,8 @@ public final class PhonesEdgeTest {
         Due.is("HELD", x.told(Scene.HELD, STATE), 4);
     }
 
-    @Edge(at = "Terms 1", says = {"PHONE: 5. DROPPED: as PHONE, and 2 for each SORT that it LACKS. CRACKED: as DROPPED, and 9. WET: twice "
-        + "as PHONE. SOAKED: as WET, and CYCLES by 100. LOCKED: 99."})
+    @Edge(at = "Terms 1", says = "PHONE: 5. DROPPED: as PHONE, and 2 for each SORT that it LACKS. CRACKED: as DROPPED, and 9. WET: twice "
+        + "as PHONE. SOAKED: as WET, and CYCLES by 100. LOCKED: 99.")
     static void harms() {
         // KIND, CYCLES, GOOD, HARM
         int[][] due = {{0, 0, 255, 5}, {0, 999, 0, 5}, {1, 999, 255, 5}, {1, 0, 254, 7}, {1, 0, 0, 21}, {4, 999, 255, 14}, {4, 0, 127, 16},
@@ -154,8 +164,8 @@ public final class PhonesEdgeTest {
         }
     }
 
-    @Edge(at = "Terms 1", says = {"PHONE: 100. DROPPED: 90. CRACKED: as DROPPED, less 10. WET: as PHONE, less 20. SOAKED: half of as WET. "
-        + "LOCKED: 0."})
+    @Edge(at = "Terms 1", says = "PHONE: 100. DROPPED: 90. CRACKED: as DROPPED, less 10. WET: as PHONE, less 20. SOAKED: half of as WET. "
+        + "LOCKED: 0.")
     static void freshOnes() {
         int[] due = {100, 90, 80, 40, 80, 0};
         for (int kind = 0; kind < 6; kind++) {
@@ -204,8 +214,8 @@ public final class PhonesEdgeTest {
         return x.told(0, WORTH);
     }
 
-    @Edge(at = "Terms 1", says = {"its tenth (cut; the same each time) less for each SORT that is PAIRED in its MODEL and FOREIGN in it "
-        + "(0 at least)."})
+    @Edge(at = "Terms 1", says = "its tenth (cut; the same each time) less for each SORT that is PAIRED in its MODEL and FOREIGN in it "
+        + "(0 at least).")
     static void tenths() {
         Due.is("a tenth of 9 is 0", worthPaired(9, 255), 9);
         Due.is("a tenth of 10 is 1", worthPaired(10, 255), 2);
@@ -227,7 +237,7 @@ public final class PhonesEdgeTest {
         Due.is("0 at least", y.told(0, WORTH), 0);
     }
 
-    @Edge(at = "Terms 2", says = {"each SORT that it LACKS is taken from STOCK (one of its MODEL), is GOOD and FOREIGN then (CYCLES stay)."})
+    @Edge(at = "Terms 2", says = "each SORT that it LACKS is taken from STOCK (one of its MODEL), is GOOD and FOREIGN then (CYCLES stay).")
     static void takenFromStock() {
         PhoneBench x = Scene.withPhone(0, 555, 0b01111110);
         x.model(1000, 0);
@@ -283,8 +293,8 @@ public final class PhonesEdgeTest {
         return x.sell(0);
     }
 
-    @Edge(at = "Terms 2", says = {"SOLD is one that is MENDED, WIPED, not on THE LIST, and for which sale gives what is not 0 (without a "
-        + "TEXT: 1)"})
+    @Edge(at = "Terms 2", says = "SOLD is one that is MENDED, WIPED, not on THE LIST, and for which sale gives what is not 0 (without a "
+        + "TEXT: 1)")
     static void whoMayBeSold() {
         Due.is("without a TEXT", forSale().sell(0), 200);
         Due.is("sale 0", soldUnder("sale 0"), Due.NO);
@@ -324,8 +334,8 @@ public final class PhonesEdgeTest {
         }
     }
 
-    @Edge(at = "Terms 2", says = {"THE TILL is 0 at first: WORTH of each that is SOLD (today) and SCRAP of each that is STRIPPED more, HARM "
-        + "of each that is MENDED less (each as it is ahead of that)."})
+    @Edge(at = "Terms 2", says = "THE TILL is 0 at first: WORTH of each that is SOLD (today) and SCRAP of each that is STRIPPED more, HARM "
+        + "of each that is MENDED less (each as it is ahead of that).")
     static void till() {
         PhoneBench x = Scene.withModel(2003, 1);
         Due.is("0 at first", x.count(10), 0);
@@ -444,19 +454,23 @@ public final class PhonesEdgeTest {
     static void asBad() {
         Edges.refusedFor("as(phone, 0)", Due.BAD, (x, v) -> x.as(v, 0), NO_PHONES);
         Edges.refusedFor("as(0, kind)", Due.BAD, (x, v) -> x.as(0, v), -1, 6, Due.LEAST, Due.MOST);
-        Due.is("the least CYCLES", Scene.withPhone(5, 0, 0).as(0, 5), 0);
-        Due.is("the most CYCLES", Scene.withPhone(5, 999, 0).as(0, 0), 999);
     }
 
-    @Edge(at = "Promise 9", says = {"A PHONE as one of a KIND: CYCLES.", "KIND: it is not of that KIND, nor of one under it."})
+    @Edge(at = "Promise 9", says = "A PHONE as one of a KIND: CYCLES.")
+    static void asInBounds() {
+        Due.is("the least CYCLES", Scene.withPhone(5, 0, 0).as(0, 5), 0);
+        Due.is("the most CYCLES", Scene.withPhone(5, 999, 0).as(0, 0), 999);
+        Due.is("CRACKED for DROPPED", Scene.busy().as(Scene.HELD, 1), 300);
+        Due.is("CRACKED for PHONE", Scene.busy().as(Scene.HELD, 0), 300);
+        Due.is("CRACKED for CRACKED", Scene.busy().as(Scene.HELD, 4), 300);
+    }
+
+    @Edge(at = "Promise 9", says = "KIND: it is not of that KIND, nor of one under it.")
     static void asKind() {
         Edges.refused("PHONE for LOCKED", x -> x.as(Scene.SOLD, 5), Due.KIND);
         Edges.refused("DROPPED for CRACKED, under it", x -> x.as(Scene.DROPPED_IN, 4), Due.KIND);
         Edges.refused("DROPPED for WET, beside it", x -> x.as(Scene.DROPPED_IN, 2), Due.KIND);
         Edges.refused("CRACKED for SOAKED", x -> x.as(Scene.HELD, 3), Due.KIND);
-        Due.is("CRACKED for DROPPED", Scene.busy().as(Scene.HELD, 1), 300);
-        Due.is("CRACKED for PHONE", Scene.busy().as(Scene.HELD, 0), 300);
-        Due.is("CRACKED for CRACKED", Scene.busy().as(Scene.HELD, 4), 300);
     }
 
     @Edge(at = "Promise 10", says = "BAD")
@@ -469,8 +483,8 @@ public final class PhonesEdgeTest {
         Edges.refusedFor("turns(0, kind)", Due.BAD, (x, v) -> x.turns(0, v), -1, 6, Due.LEAST, Due.MOST);
     }
 
-    @Edge(at = "Promise 11", says = {"1 if that is new, else 0", "BAD"})
-    static void flagEdges() {
+    @Edge(at = "Promise 11", says = "1 if that is new, else 0")
+    static void flagIsNew() {
         PhoneBench y = Scene.withPhone(0, 0, 0);
         for (int what = 0; what < 2; what++) {
             Due.is("not, as it was", y.flag(0, what, false), 0);
@@ -478,6 +492,10 @@ public final class PhonesEdgeTest {
             Due.is("as it was", y.flag(0, what, true), 0);
             Due.is("not, new", y.flag(0, what, false), 1);
         }
+    }
+
+    @Edge(at = "Promise 11", says = "BAD")
+    static void flagBad() {
         for (int i = 0; i < 2; i++) {
             boolean is = i == 1;
             Edges.refusedFor("flag(phone, 0)", Due.BAD, (x, v) -> x.flag(v, 0, is), NO_PHONES);
@@ -550,15 +568,23 @@ public final class PhonesEdgeTest {
         Due.is("SCRAP all the same", y.count(10), 3);
     }
 
-    @Edge(at = "Promise 14", says = {"BAD", "NO: it is not IN."})
-    static void stripRefused() {
+    @Edge(at = "Promise 14", says = "BAD")
+    static void stripBad() {
         Edges.refusedFor("strip(phone)", Due.BAD, PhoneBench::strip, NO_PHONES);
+    }
+
+    @Edge(at = "Promise 14", says = "NO: it is not IN.")
+    static void stripNo() {
         Edges.refusedFor("strip, not IN", Due.NO, PhoneBench::strip, Scene.MENDED, Scene.STRIPPED, Scene.SOLD, Scene.HELD, Scene.CAME_BACK);
     }
 
-    @Edge(at = "Promise 15", says = {"A PHONE is SOLD: for how much.", "BAD"})
+    @Edge(at = "Promise 15", says = "BAD")
     static void sellBad() {
         Edges.refusedFor("sell(phone)", Due.BAD, PhoneBench::sell, NO_PHONES);
+    }
+
+    @Edge(at = "Promise 15", says = "A PHONE is SOLD: for how much.")
+    static void sellForHowMuch() {
         PhoneBench x = Scene.withModel(19, 0);
         x.phone(1, 0, 255);
         x.mend(0, 0);
@@ -609,10 +635,18 @@ public final class PhonesEdgeTest {
         }, x -> x.sell(0), Due.NO);
     }
 
-    @Edge(at = "Promise 16", says = {"A PHONE is HELD: 1.", "BAD", "NO: it can't be."})
-    static void holdRefused() {
+    @Edge(at = "Promise 16", says = "BAD")
+    static void holdBad() {
         Edges.refusedFor("hold(phone)", Due.BAD, PhoneBench::hold, NO_PHONES);
+    }
+
+    @Edge(at = "Promise 16", says = "NO: it can't be.")
+    static void holdNo() {
         Edges.refusedFor("hold, not on THE LIST, or HELD", Due.NO, PhoneBench::hold, 0, 1, 2, 3, 4, 5, 6, 7);
+    }
+
+    @Edge(at = "Promise 16", says = "A PHONE is HELD: 1.")
+    static void holds() {
         PhoneBench x = Scene.busy();
         x.flag(Scene.LOCKED_IN, 1, true);
         Due.is("a LOCKED one", x.hold(Scene.LOCKED_IN), 1);

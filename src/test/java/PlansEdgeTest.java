@@ -44,8 +44,8 @@ public final class PlansEdgeTest {
         Due.is("plan(-1)", x.plan(-1), 6 * 195);
     }
 
-    @Edge(at = "Terms 2", says = {"first all that are STRIPPED, then, by numbers, all that are MENDED (as far as STOCK has parts; else the "
-        + "PLAN can't be)"})
+    @Edge(at = "Terms 2", says = "first all that are STRIPPED, then, by numbers, all that are MENDED (as far as STOCK has parts; else the "
+        + "PLAN can't be)")
     static void partsForPlans() {
         // the last told one is STRIPPED, and the first one MENDED with its battery
         PhoneBench x = Scene.withModel(2000, 0);
@@ -75,8 +75,8 @@ public final class PlansEdgeTest {
         planIs(chosen(2000, 1, 0, 127), 3, STRIPPED);
     }
 
-    @Edge(at = "Terms 2", says = {"SCRAP of each STRIPPED, and of each MENDED its WORTH today (behind that) less its HARM (ahead of it; it "
-        + "may be below 0)."})
+    @Edge(at = "Terms 2", says = "SCRAP of each STRIPPED, and of each MENDED its WORTH today (behind that) less its HARM (ahead of it; it "
+        + "may be below 0).")
     static void whatIsHad() {
         // WORTH 200 less 20 for what is PAIRED and FOREIGN behind that; HARM 5 and 2 ahead of that, 90 of 100
         PhoneBench x = Scene.withModel(2003, 1);
@@ -101,8 +101,8 @@ public final class PlansEdgeTest {
         return x;
     }
 
-    @Edge(at = "Terms 2", says = {"that with the most together; of several the first (by told ones: left 0, MENDED 1, STRIPPED 2). Nothing "
-        + "changes."})
+    @Edge(at = "Terms 2", says = "that with the most together; of several the first (by told ones: left 0, MENDED 1, STRIPPED 2). Nothing "
+        + "changes.")
     static void firstOfPlans() {
         // WORTH 5 less HARM 5 is 0, as SCRAP: all nine PLANS have 0
         planIs(equalPlans(), 0, LEFT, LEFT);
@@ -125,7 +125,7 @@ public final class PlansEdgeTest {
         Edges.refused("noon changes nothing", y -> y.noon(-1), 0);
     }
 
-    @Edge(at = "Terms 2", says = {"PHONES that are told (the same ones, IN or not any more) wait for one bench, each for HARM minutes"})
+    @Edge(at = "Terms 2", says = "PHONES that are told (the same ones, IN or not any more) wait for one bench, each for HARM minutes")
     static void inOrNotAnyMore() {
         PhoneBench x = chosen(1000, 3, 0, 255);
         for (int i = 0; i < 3; i++) {

@@ -158,8 +158,8 @@ public final class RowsEdgeTest {
         Due.is("THE IMAGE has no law", proved(v, 1, 186, 1), 0);
     }
 
-    @Edge(at = "Promise 45", says = {"One more number waits: how many.", "FULL: 60 wait."})
-    static void tells() {
+    @Edge(at = "Promise 45", says = "FULL: 60 wait.")
+    static void tellFull() {
         PhoneBench x = new PhoneBench();
         int[] any = {Due.LEAST, Due.MOST, 0, Due.NONE, Due.FULL};
         for (int i = 0; i < 60; i++) {
@@ -174,6 +174,15 @@ public final class RowsEdgeTest {
         Due.is("the 61st", z.tell(1), Due.FULL);
         Due.is("the 60 are as they were", z.proves(30), 0);
         Due.is("the first again", z.tell(1), 1);
+    }
+
+    @Edge(at = "Promise 45", says = "One more number waits: how many.")
+    static void tellsHowMany() {
+        PhoneBench x = new PhoneBench();
+        Due.is("the first", x.tell(0), 1);
+        Due.is("the second", x.tell(Due.LEAST), 2);
+        x.proves(1);
+        Due.is("the first again", x.tell(Due.MOST), 1);
     }
 
     @Edge(at = "Promise 46", says = "The numbers that wait (none do then, whatever is answered)")
@@ -222,14 +231,18 @@ public final class RowsEdgeTest {
         Due.is("two wrong ones", proved(x, 2, 186, 2, 172, 2), 2);
     }
 
-    @Edge(at = "Promise 46", says = {"BAD", "NO: there is no IMAGE."})
-    static void provesRefused() {
+    @Edge(at = "Promise 46", says = "BAD")
+    static void provesBad() {
         // with no numbers that wait, so that nothing at all may change
         int[] bad = {0, 31, -1, Due.LEAST, Due.MOST};
         for (int n : bad) {
             Edges.refused("proves(" + n + ")", RowsEdgeTest::busyWithoutNumbers, x -> x.proves(n), Due.BAD);
             Edges.refused("proves(" + n + ") without an IMAGE", RowsEdgeTest::shop, x -> x.proves(n), Due.BAD);
         }
+    }
+
+    @Edge(at = "Promise 46", says = "NO: there is no IMAGE.")
+    static void provesNo() {
         Edges.refused("proves(1)", RowsEdgeTest::shop, x -> x.proves(1), Due.NO);
         Edges.refused("proves(30)", RowsEdgeTest::shop, x -> x.proves(30), Due.NO);
         Edges.refused("proves(1), none waits", RowsEdgeTest::busyWithoutNumbers, x -> x.proves(1), 1);
@@ -330,8 +343,8 @@ public final class RowsEdgeTest {
         }
     }
 
-    @Edge(at = "Promise 49", says = {"How many: 0 MODELS, 1 PHONES, 2 of these IN, 3 MENDED, 4 SOLD, 5 that came BACK, 6 TEXTS, 7 CHECKS, 8 OPEN "
-        + "(bits), 9 told ones, 10 THE TILL, 11 the DAY, 12 numbers that wait, 13 bytes of THE TAPE, 14 z."})
+    @Edge(at = "Promise 49", says = "How many: 0 MODELS, 1 PHONES, 2 of these IN, 3 MENDED, 4 SOLD, 5 that came BACK, 6 TEXTS, 7 CHECKS, 8 OPEN "
+        + "(bits), 9 told ones, 10 THE TILL, 11 the DAY, 12 numbers that wait, 13 bytes of THE TAPE, 14 z.")
     static void counts() {
         PhoneBench x = new PhoneBench();
         int[] empty = {0, 0, 0, 0, 0, 0, 0, 0, 255, 0, 0, 0, 0, 0, 1};

@@ -20,8 +20,8 @@ public final class SheetsEdgeTest {
         Due.is("behind the last place", place(x, sheet, due.length), Due.INDEX);
     }
 
-    @Edge(at = "Terms 5", says = {"SHEETS 0 .. 3 are rows of shorts (sort 0) or floats (1; whole numbers), with 0 to 24 places, or MISSING "
-        + "(at first)."})
+    @Edge(at = "Terms 5", says = "SHEETS 0 .. 3 are rows of shorts (sort 0) or floats (1; whole numbers), with 0 to 24 places, or MISSING "
+        + "(at first).")
     static void sheetBounds() {
         PhoneBench x = Scene.withModel(1000, 0);
         for (int sheet = 0; sheet < 4; sheet++) {
@@ -53,8 +53,8 @@ public final class SheetsEdgeTest {
         Due.is("told", place(x, 0, 0), 0);
     }
 
-    @Edge(at = "Terms 5", says = {"SLOTS 0 .. 4 each hold nothing (at first), a PHONE (as it is then, for good), a SHEET (a row of its own, as "
-        + "it was then), or a number."})
+    @Edge(at = "Terms 5", says = "SLOTS 0 .. 4 each hold nothing (at first), a PHONE (as it is then, for good), a SHEET (a row of its own, as "
+        + "it was then), or a number.")
     static void slotsHold() {
         PhoneBench x = Scene.withPhone(1, 0, 255);
         for (int slot = 0; slot < 5; slot++) {
@@ -91,8 +91,8 @@ public final class SheetsEdgeTest {
         Due.is("with its own places", x.item(3, 2), Due.INDEX);
     }
 
-    @Edge(at = "Terms 5", says = {"NOTHING: a SHEET is MISSING, a SLOT holds nothing; INDEX: there is no such place; SIZE: a number of places "
-        + "is below 0; KIND: it is none (of a KIND, a number, or another thing)."})
+    @Edge(at = "Terms 5", says = "NOTHING: a SHEET is MISSING, a SLOT holds nothing; INDEX: there is no such place; SIZE: a number of places "
+        + "is below 0; KIND: it is none (of a KIND, a number, or another thing).")
     static void findings() {
         PhoneBench x = Scene.busy();
         Due.is("a SHEET is MISSING", x.mark(MISSING, 0, 0), Due.NOTHING);
@@ -179,10 +179,19 @@ public final class SheetsEdgeTest {
         Due.is("NO NUMBER", place(x, 0, 0), Due.KIND);
     }
 
-    @Edge(at = "Promise 37", says = {"BAD: sheet", "NOTHING", "INDEX"})
-    static void markRefused() {
+    @Edge(at = "Promise 37", says = "BAD: sheet")
+    static void markBad() {
         Edges.refusedFor("mark(sheet, 0, 1)", Due.BAD, (x, v) -> x.mark(v, 0, 1), NO_SHEETS);
+    }
+
+    @Edge(at = "Promise 37", says = "NOTHING")
+    static void markNothing() {
         Edges.refused("MISSING", x -> x.mark(MISSING, 0, 1), Due.NOTHING);
+        Edges.refused("any SHEET of a new object", PhoneBench::new, x -> x.mark(0, 0, 1), Due.NOTHING);
+    }
+
+    @Edge(at = "Promise 37", says = "INDEX")
+    static void markIndex() {
         Edges.refusedFor("mark(SHORTS, place, 1)", Due.INDEX, (x, v) -> x.mark(SHORTS, v, 1), -1, 3, 23, Due.LEAST, Due.MOST);
         Edges.refusedFor("mark(FLOATS, place, 1)", Due.INDEX, (x, v) -> x.mark(FLOATS, v, 1), -1, 4, 23, Due.LEAST, Due.MOST);
         Edges.refusedFor("mark(NO_PLACES, place, 1)", Due.INDEX, (x, v) -> x.mark(NO_PLACES, v, 1), -1, 0, Due.LEAST, Due.MOST);
@@ -192,10 +201,14 @@ public final class SheetsEdgeTest {
         rowIs(y, SHORTS, 1, -7, 2);
     }
 
-    @Edge(at = "Promise 37", says = {"KIND: NONE in a row of shorts", "BAD: v of floats."})
-    static void markOfTheSort() {
+    @Edge(at = "Promise 37", says = "KIND: NONE in a row of shorts")
+    static void markKind() {
         Edges.refused("NONE in shorts", x -> x.mark(SHORTS, 0, Due.NONE), Due.KIND);
         Edges.refused("NONE in shorts", x -> x.mark(SHORTS, 2, Due.NONE), Due.KIND);
+    }
+
+    @Edge(at = "Promise 37", says = "BAD: v of floats.")
+    static void markBadFloat() {
         Edges.refusedFor("mark(FLOATS, 0, v)", Due.BAD, (x, v) -> x.mark(FLOATS, 0, v), -100000, 100000, Due.LEAST, Due.MOST, Due.NONE - 1,
             Due.NONE + 1, Due.BAD, Due.KIND);
     }
@@ -209,8 +222,8 @@ public final class SheetsEdgeTest {
         return x;
     }
 
-    @Edge(at = "Promise 38", says = {"The first place (of numbers alone) at which a SHEET is not what is ASKED for a MODEL on the DAY so many "
-        + "later (place 0: today)."})
+    @Edge(at = "Promise 38", says = "The first place (of numbers alone) at which a SHEET is not what is ASKED for a MODEL on the DAY so many "
+        + "later (place 0: today).")
     static void paths() {
         Due.is("at the first", pathed(0, 1007, 99, 93, 86).path(0, 0), 0);
         Due.is("at the last", pathed(0, 1007, 100, 93, 85).path(0, 0), 2);
@@ -229,11 +242,16 @@ public final class SheetsEdgeTest {
         Due.is("the 24th place", pathed(0, 9999, all).path(0, 0), 23);
     }
 
-    @Edge(at = "Promise 38", says = {"BAD", "NOTHING"})
-    static void pathRefused() {
+    @Edge(at = "Promise 38", says = "BAD")
+    static void pathBad() {
         Edges.refusedFor("path(sheet, 0)", Due.BAD, (x, v) -> x.path(v, 0), NO_SHEETS);
         Edges.refusedFor("path(0, model)", Due.BAD, (x, v) -> x.path(0, v), -1, Scene.BUSY_MODELS, 6, Due.LEAST, Due.MOST);
+    }
+
+    @Edge(at = "Promise 38", says = "NOTHING")
+    static void pathNothing() {
         Edges.refused("MISSING", x -> x.path(MISSING, 0), Due.NOTHING);
+        Edges.refused("any SHEET at first", () -> Scene.withModel(1000, 0), x -> x.path(0, 0), Due.NOTHING);
     }
 
     @Edge(at = "Promise 38", says = "NONE: there is none.")
@@ -301,11 +319,16 @@ public final class SheetsEdgeTest {
         Due.is("it is full for all", z.fill(0, 1), 0);
     }
 
-    @Edge(at = "Promise 39", says = {"BAD", "NOTHING"})
-    static void fillRefused() {
+    @Edge(at = "Promise 39", says = "BAD")
+    static void fillBad() {
         Edges.refusedFor("fill(sheet, 0)", Due.BAD, (x, v) -> x.fill(v, 0), NO_SHEETS);
         Edges.refusedFor("fill(0, model)", Due.BAD, (x, v) -> x.fill(0, v), -1, Scene.BUSY_MODELS, 6, Due.LEAST, Due.MOST);
+    }
+
+    @Edge(at = "Promise 39", says = "NOTHING")
+    static void fillNothing() {
         Edges.refused("MISSING", x -> x.fill(MISSING, 0), Due.NOTHING);
+        Edges.refused("any SHEET at first", () -> Scene.withModel(1000, 0), x -> x.fill(3, 0), Due.NOTHING);
     }
 
     /** SHEETS 0 and 1 of shorts (5 and 3 places), 2 of floats (5 places), 3 MISSING. */
@@ -347,13 +370,21 @@ public final class SheetsEdgeTest {
         Due.is("25 places", x.copy(0, 0, 1, 0, 25), Due.INDEX);
     }
 
-    @Edge(at = "Promise 40", says = {"BAD", "NOTHING", "KIND: they are not of one sort"})
-    static void copyRefused() {
+    @Edge(at = "Promise 40", says = "BAD")
+    static void copyBad() {
         Edges.refusedFor("from no SHEET", Due.BAD, (x, v) -> x.copy(v, 0, 0, 0, 0), NO_SHEETS);
         Edges.refusedFor("to no SHEET", Due.BAD, (x, v) -> x.copy(0, 0, v, 0, 0), NO_SHEETS);
+    }
+
+    @Edge(at = "Promise 40", says = "NOTHING")
+    static void copyNothing() {
         Edges.refused("from a MISSING one", x -> x.copy(MISSING, 0, SHORTS, 0, 0), Due.NOTHING);
         Edges.refused("to a MISSING one", x -> x.copy(SHORTS, 0, MISSING, 0, 0), Due.NOTHING);
         Edges.refused("from a MISSING one to itself", x -> x.copy(MISSING, 0, MISSING, 0, 0), Due.NOTHING);
+    }
+
+    @Edge(at = "Promise 40", says = "KIND: they are not of one sort")
+    static void copyKind() {
         Edges.refused("shorts to floats", x -> x.copy(SHORTS, 0, FLOATS, 0, 1), Due.KIND);
         Edges.refused("floats to shorts", x -> x.copy(FLOATS, 0, SHORTS, 0, 1), Due.KIND);
         Edges.refused("no places of shorts to floats", x -> x.copy(NO_PLACES, 0, FLOATS, 0, 0), Due.KIND);
@@ -427,8 +458,8 @@ public final class SheetsEdgeTest {
         Due.is("a SHEET without places", x.lay(0, 2, NO_PLACES), 1);
     }
 
-    @Edge(at = "Promise 41", says = {"BAD: slot, thing, k", "NOTHING: that SHEET is MISSING."})
-    static void layRefused() {
+    @Edge(at = "Promise 41", says = "BAD: slot, thing, k")
+    static void layBad() {
         for (int thing = 0; thing < 4; thing++) {
             int one = thing;
             Edges.refusedFor("lay(slot, " + thing + ", 0)", Due.BAD, (x, v) -> x.lay(v, one, 0), NO_SLOTS);
@@ -438,8 +469,19 @@ public final class SheetsEdgeTest {
             Edges.refusedFor("lay(" + slot + ", thing, 0)", Due.BAD, (x, v) -> x.lay(one, v, 0), -1, 4, Due.LEAST, Due.MOST);
             Edges.refusedFor("lay(" + slot + ", 1, k)", Due.BAD, (x, v) -> x.lay(one, 1, v), -1, Scene.BUSY_PHONES, 16, Due.LEAST, Due.MOST);
             Edges.refusedFor("lay(" + slot + ", 2, k)", Due.BAD, (x, v) -> x.lay(one, 2, v), NO_SHEETS);
+        }
+    }
+
+    @Edge(at = "Promise 41", says = "NOTHING: that SHEET is MISSING.")
+    static void layNothing() {
+        for (int slot = 0; slot < 5; slot++) {
+            int one = slot;
             Edges.refused("lay(" + slot + ", 2, MISSING)", x -> x.lay(one, 2, MISSING), Due.NOTHING);
         }
+        PhoneBench y = Scene.busy();
+        y.sheet(SHORTS, -1, 0);
+        Due.is("MISSING now", y.lay(Scene.OF_SHORTS, 2, SHORTS), Due.NOTHING);
+        Due.is("what was laid stays", y.item(Scene.OF_SHORTS, 0), 5);
     }
 
     @Edge(at = "Promise 42", says = "taken for one of a KIND (0 .. 5)")
@@ -456,11 +498,22 @@ public final class SheetsEdgeTest {
         }
     }
 
-    @Edge(at = "Promise 42", says = {"BAD", "NOTHING", "KIND: it is no PHONE, or not of that KIND, nor of one under it."})
-    static void askRefused() {
+    @Edge(at = "Promise 42", says = "BAD")
+    static void askBad() {
         Edges.refusedFor("ask(slot, 0)", Due.BAD, (x, v) -> x.ask(v, 0), NO_SLOTS);
         Edges.refusedFor("ask(PHONE, kind)", Due.BAD, (x, v) -> x.ask(Scene.OF_PHONE, v), -1, 6, Due.LEAST, Due.MOST);
+    }
+
+    @Edge(at = "Promise 42", says = "NOTHING")
+    static void askNothing() {
         Edges.refused("nothing", x -> x.ask(Scene.EMPTY, 0), Due.NOTHING);
+        PhoneBench x = Scene.busy();
+        x.lay(Scene.OF_PHONE, 0, 0);
+        Due.is("nothing any more", x.ask(Scene.OF_PHONE, 0), Due.NOTHING);
+    }
+
+    @Edge(at = "Promise 42", says = "KIND: it is no PHONE, or not of that KIND, nor of one under it.")
+    static void askKind() {
         Edges.refused("a SHEET", x -> x.ask(Scene.OF_FLOATS, 0), Due.KIND);
         Edges.refused("a number", x -> x.ask(Scene.OF_NUMBER, 0), Due.KIND);
         Edges.refused("CRACKED for WET", x -> x.ask(Scene.OF_PHONE, 2), Due.KIND);
@@ -468,19 +521,31 @@ public final class SheetsEdgeTest {
         PhoneBench x = Scene.busy();
         x.lay(Scene.OF_PHONE, 3, 0);
         Due.is("no PHONE any more", x.ask(Scene.OF_PHONE, 0), Due.KIND);
-        x.lay(Scene.OF_PHONE, 0, 0);
-        Due.is("nothing any more", x.ask(Scene.OF_PHONE, 0), Due.NOTHING);
     }
 
-    @Edge(at = "Promise 43", says = {"BAD: slot", "NOTHING", "KIND: it is no SHEET", "INDEX", "KIND: NO NUMBER."})
-    static void itemRefused() {
+    @Edge(at = "Promise 43", says = "BAD: slot")
+    static void itemBad() {
         Edges.refusedFor("item(slot, 0)", Due.BAD, (x, v) -> x.item(v, 0), NO_SLOTS);
+    }
+
+    @Edge(at = "Promise 43", says = "NOTHING")
+    static void itemNothing() {
         Edges.refused("nothing", x -> x.item(Scene.EMPTY, 0), Due.NOTHING);
+        PhoneBench x = Scene.busy();
+        x.lay(Scene.OF_FLOATS, 0, 0);
+        Due.is("nothing any more", x.item(Scene.OF_FLOATS, 0), Due.NOTHING);
+    }
+
+    @Edge(at = "Promise 43", says = "KIND: it is no SHEET")
+    static void itemKind() {
         Edges.refused("a PHONE", x -> x.item(Scene.OF_PHONE, 0), Due.KIND);
         Edges.refused("a number", x -> x.item(Scene.OF_NUMBER, 0), Due.KIND);
+    }
+
+    @Edge(at = "Promise 43", says = "INDEX")
+    static void itemIndex() {
         Edges.refusedFor("item(FLOATS, place)", Due.INDEX, (x, v) -> x.item(Scene.OF_FLOATS, v), -1, 4, 23, 24, Due.LEAST, Due.MOST);
         Edges.refusedFor("item(SHORTS, place)", Due.INDEX, (x, v) -> x.item(Scene.OF_SHORTS, v), -1, 3, 23, 24, Due.LEAST, Due.MOST);
-        Edges.refused("NO NUMBER", x -> x.item(Scene.OF_FLOATS, 1), Due.KIND);
         PhoneBench x = Scene.busy();
         Due.is("the first place", x.item(Scene.OF_FLOATS, 0), 191);
         Due.is("the last place", x.item(Scene.OF_FLOATS, 3), -99999);
@@ -488,7 +553,17 @@ public final class SheetsEdgeTest {
         Due.is("no places", x.item(0, 0), Due.INDEX);
     }
 
-    @Edge(at = "Promise 44", says = {"The rest of the number in a SLOT by n.", "NO: n is 0."})
+    @Edge(at = "Promise 43", says = "KIND: NO NUMBER.")
+    static void itemNoNumber() {
+        Edges.refused("NO NUMBER", x -> x.item(Scene.OF_FLOATS, 1), Due.KIND);
+        PhoneBench x = Scene.busy();
+        x.mark(Scene.FLOATS, 1, 8);
+        Due.is("as it was then", x.item(Scene.OF_FLOATS, 1), Due.KIND);
+        x.lay(Scene.OF_FLOATS, 2, FLOATS);
+        Due.is("a number now", x.item(Scene.OF_FLOATS, 1), 8);
+    }
+
+    @Edge(at = "Promise 44", says = "The rest of the number in a SLOT by n.")
     static void rests() {
         // the number, n, the rest
         int[][] due = {{17, 5, 2}, {-17, 5, -2}, {17, -5, 2}, {-17, -5, -2}, {17, 17, 0}, {17, 18, 17}, {17, 16, 1}, {0, 3, 0}, {17, 1, 0},
@@ -498,16 +573,33 @@ public final class SheetsEdgeTest {
             PhoneBench x = new PhoneBench();
             x.lay(4, 3, one[0]);
             Due.is("rest of " + one[0] + " by " + one[1], x.rest(4, one[1]), one[2]);
-            Due.is("rest of " + one[0] + " by 0", x.rest(4, 0), Due.NO);
-            Due.is("it stays", x.rest(4, one[1]), one[2]);
+        }
+    }
+
+    @Edge(at = "Promise 44", says = "NO: n is 0.")
+    static void restNo() {
+        int[] any = {0, 1, -1, Due.LEAST, Due.MOST};
+        for (int v : any) {
+            PhoneBench x = new PhoneBench();
+            x.lay(4, 3, v);
+            Due.is("rest of " + v + " by 0", x.rest(4, 0), Due.NO);
+            Due.is("it stays", x.rest(4, Due.MOST), v % Due.MOST);
         }
         Edges.refused("by 0", x -> x.rest(Scene.OF_NUMBER, 0), Due.NO);
     }
 
-    @Edge(at = "Promise 44", says = {"BAD: slot", "NOTHING", "KIND: it is no number"})
-    static void restRefused() {
+    @Edge(at = "Promise 44", says = "BAD: slot")
+    static void restBad() {
         Edges.refusedFor("rest(slot, 1)", Due.BAD, (x, v) -> x.rest(v, 1), NO_SLOTS);
+    }
+
+    @Edge(at = "Promise 44", says = "NOTHING")
+    static void restNothing() {
         Edges.refused("nothing", x -> x.rest(Scene.EMPTY, 1), Due.NOTHING);
+    }
+
+    @Edge(at = "Promise 44", says = "KIND: it is no number")
+    static void restKind() {
         Edges.refused("a PHONE", x -> x.rest(Scene.OF_PHONE, 1), Due.KIND);
         Edges.refused("a SHEET", x -> x.rest(Scene.OF_SHORTS, 1), Due.KIND);
     }
