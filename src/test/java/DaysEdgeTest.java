@@ -295,9 +295,25 @@ public final class DaysEdgeTest {
         Due.is("DAY", y.count(11), 999);
     }
 
-    @Edge(at = "Promise 33", says = "RATE of a bench (0 .. 3). BAD; NONE: no SOLD one is of it.")
-    static void rateEdges() {
+    @Edge(at = "Promise 33", says = "BAD")
+    static void rateBad() {
         Edges.refusedFor("rate", Due.BAD, PhoneBench::rate, -1, 4, Due.LEAST, Due.MOST, Due.NONE);
+    }
+
+    @Edge(at = "Promise 33", says = "RATE of a bench (0 .. 3).")
+    static void rateInBounds() {
+        PhoneBench x = Scene.withModel(1000, 0);
+        for (int bench = 0; bench < 4; bench++) {
+            Scene.sold(x, 0, bench % 3 == 0 ? 999 : 0, bench);
+        }
+        x.run(60);
+        for (int bench = 0; bench < 4; bench++) {
+            Due.is("rate(" + bench + ")", x.rate(bench), bench % 3 == 0 ? 100 : 0);
+        }
+    }
+
+    @Edge(at = "Promise 33", says = "NONE: no SOLD one is of it.")
+    static void rateNone() {
         for (int bench = 0; bench < 4; bench++) {
             PhoneBench x = Scene.withPhone(0, 0, 255);
             Due.is("none is MENDED", x.rate(bench), Due.NONE);
@@ -311,7 +327,7 @@ public final class DaysEdgeTest {
         }
     }
 
-    @Edge(at = "Promise 34", says = "BLAMED. NONE.")
+    @Edge(at = "Promise 34", says = "NONE")
     static void blamedNone() {
         Edges.refused("blamed()", PhoneBench::new, PhoneBench::blamed, Due.NONE);
         PhoneBench x = Scene.withPhone(0, 999, 255);

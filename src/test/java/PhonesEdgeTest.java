@@ -504,13 +504,17 @@ public final class PhonesEdgeTest {
         }
     }
 
-    @Edge(at = "Promise 12", says = "PROMISE of a PHONE becomes v: what it was. BAD.")
-    static void promiseEdges() {
+    @Edge(at = "Promise 12", says = "PROMISE of a PHONE becomes v: what it was.")
+    static void promiseInBounds() {
         PhoneBench y = Scene.withPhone(0, 0, 0);
         Due.is("999 at first", y.promise(0, 0), 999);
         Due.is("0", y.promise(0, 999), 0);
         Due.is("999", y.promise(0, 998), 999);
         Due.is("told", y.told(0, PROMISE), 998);
+    }
+
+    @Edge(at = "Promise 12", says = "BAD")
+    static void promiseBad() {
         Edges.refusedFor("promise(phone, 5)", Due.BAD, (x, v) -> x.promise(v, 5), NO_PHONES);
         Edges.refusedFor("promise(0, v)", Due.BAD, (x, v) -> x.promise(0, v), -1, 1000, Due.LEAST, Due.MOST);
     }
