@@ -5,7 +5,7 @@ import java.util.TreeSet;
 
 /**
  * The document once more, from its first line, in its plainest words: sorts and causes as sets, kinds as classes
- * under one another, rows as Java's own. Written without a look at the class, so that both can be held together.
+ * under one another, rows as Java's own. It takes other ways than the class, so that a slip in one shows in the other.
  */
 final class SecondBench {
     private static final int BAD = Due.BAD, NO = Due.NO, FULL = Due.FULL, NONE = Due.NONE;

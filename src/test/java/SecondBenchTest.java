@@ -13,7 +13,7 @@ import java.util.TreeSet;
 
 /** Long mixed runs of calls on the class and on the second bench: every answer of both is the same. */
 public final class SecondBenchTest {
-    private static final int RUNS = 1500, CALLS = 512;
+    private static final int RUNS = 700, CALLS = 512;
 
     /** Of each promise the answers that it names beside a number; all have to be met in the runs. */
     private static final String[] NAMED = {"model BAD FULL", "asked BAD", "common BAD", "stock BAD", "has BAD",

@@ -10,7 +10,7 @@ final class SecondCalls {
     static final String[][] GROUPS = {
         {"model", "asked", "common", "stock", "has", "stock", "has"},
         {"phone", "told", "told", "told", "as", "turns", "flag", "promise", "mend", "strip", "sell", "hold", "*mend", "*sell"},
-        {"choose", "clear", "plan", "noon", "choose", "choose", "*noon"},
+        {"choose", "clear", "plan", "noon", "choose", "choose", "*noon", "*crowd"},
         {"feed", "trim", "text", "textTold", "why", "*text", "*text", "*text", "*law", "*tape"},
         {"weigh", "check", "says", "anew", "next", "deep", "next", "check", "weigh"},
         {"run", "rate", "blamed", "seed", "rate", "*back", "*back", "*year"},
@@ -70,9 +70,18 @@ final class SecondCalls {
         return random.nextInt(8) == 0 ? number(0, 255) : bits;
     }
 
+    /** Cycles crowd where a SPAN of 20 begins, and at their own ends. */
+    private int cycles() {
+        switch (random.nextInt(4)) {
+            case 0: return any(0, 999);
+            case 1: return any(500, 999);
+            case 2: return any(795, 815);
+            default: return random.nextBoolean() ? 0 : 999;
+        }
+    }
+
     private int of() {
-        int cycles = random.nextBoolean() ? any(0, 999) : any(500, 999);
-        return random.nextInt(wildness) == 0 ? number(0, 7000) : 1000 * Math.max(0, aModel()) + cycles;
+        return random.nextInt(6) == 0 ? number(0, 1000 * second.count(0) - 1) : 1000 * Math.max(0, aModel()) + cycles();
     }
 
     /** Whether two alternatives or one is asked for: a bit for a boolean. */
@@ -88,7 +97,7 @@ final class SecondCalls {
             taker.take("stock", 0, sort, any(0, 20));
         }
         for (int i = random.nextInt(6) == 0 ? 17 : any(2, 12); i > 0; i--) {
-            taker.take("phone", any(0, 5), any(0, 999), good());
+            taker.take("phone", any(0, 5), cycles(), good());
         }
     }
 
@@ -169,6 +178,7 @@ final class SecondCalls {
             case "mend" -> mendOne();
             case "sell" -> sellOne();
             case "noon" -> allOfNoon();
+            case "crowd" -> crowdByNoon();
             case "text" -> say(new SecondWords(random).anyText());
             case "law" -> say(new SecondWords(random).goodText());
             case "tape" -> feedFull();
@@ -206,6 +216,22 @@ final class SecondCalls {
             taker.take("plan", what);
             taker.take("noon", what);
         }
+    }
+
+    /** As many as can be told; mostly the later ones are promised earlier, so that late orders are best, too. */
+    private void crowdByNoon() {
+        taker.take("clear");
+        int many = second.count(1);
+        for (int i = 0; i < many; i++) {
+            if (random.nextInt(4) > 0) {
+                taker.take("promise", i, random.nextInt(3) == 0 ? any(0, 80) : Math.max(0, 12 * (many - i) - any(0, 12)));
+            }
+            taker.take("choose", i);
+        }
+        for (int what = -1; what < 6; what++) {
+            taker.take("noon", what);
+        }
+        taker.take("plan", -1);
     }
 
     /** Bytes behind the text are cut off again; what the tape had is sometimes left there. */

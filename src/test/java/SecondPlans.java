@@ -4,6 +4,7 @@ import java.util.List;
 /** PLANS and orders of the second bench: each PLAN is carried out on a copy of STOCK and of the told ones. */
 final class SecondPlans {
     private final SecondShop shop;
+    private final SecondShop trial = new SecondShop();
     int most = Due.LEAST;
     List<Integer> best = List.of();
     int least = Due.MOST;
@@ -11,6 +12,10 @@ final class SecondPlans {
 
     SecondPlans(SecondShop shop) {
         this.shop = shop;
+        trial.day = shop.day;
+        trial.models = shop.models;
+        trial.common = shop.common;
+        trial.texts = shop.texts;
     }
 
     void find() {
@@ -37,11 +42,8 @@ final class SecondPlans {
 
     /** What is had; the least number of all, if the PLAN can't be. */
     private int carriedOut(List<Integer> plan) {
-        SecondShop trial = new SecondShop();
-        trial.day = shop.day;
-        trial.models = shop.models;
-        trial.common = shop.common;
-        trial.texts = shop.texts;
+        trial.till = 0;
+        trial.stock.clear();
         for (int[] row : shop.stock) {
             trial.stock.add(row.clone());
         }
@@ -68,12 +70,14 @@ final class SecondPlans {
         goOnWith(new ArrayList<>(), 0, 0);
     }
 
+    /** What is late already stays late: such an order is not gone on with. */
     private void goOnWith(List<Integer> order, int minute, int late) {
+        if (late >= least) {
+            return;
+        }
         if (order.size() == shop.told.size()) {
-            if (late < least) {
-                least = late;
-                first = List.copyOf(order);
-            }
+            least = late;
+            first = List.copyOf(order);
             return;
         }
         for (int phone : shop.told) {

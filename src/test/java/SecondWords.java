@@ -108,7 +108,7 @@ final class SecondWords {
     }
 
     private String changed(String text) {
-        int place = random.nextInt(text.length());
+        int place = random.nextInt(random.nextInt(4) == 0 ? 4 : text.length());
         String ahead = text.substring(0, place);
         String one = bytes(1);
         switch (random.nextInt(4)) {
